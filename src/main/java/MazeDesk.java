@@ -205,6 +205,19 @@ public final class MazeDesk {
         return k >= 0 && k < KEYS;
     }
 
+    private static boolean holds(int keys, int k) {
+        return (keys >> k & 1) != 0;
+    }
+
+    private static int lowestKey(int keys) {
+        for (int k = 0; k < KEYS; k++) {
+            if (holds(keys, k)) {
+                return k;
+            }
+        }
+        return NONE;
+    }
+
     private static int back(int direction) {
         return direction ^ 2;
     }
@@ -580,9 +593,9 @@ public final class MazeDesk {
         }
 
         void layOut(Stacks stacks, int root) {
-            Arrays.fill(opened, false);
-            Arrays.fill(doorKeys, NONE);
-            Arrays.fill(onlyDirections, NONE);
+            for (int place = 0; place < board.passages(); place++) {
+                setOpen(place, false);
+            }
             liftKeys();
             for (int cell = 0; cell < board.cells(); cell++) {
                 int place = board.passageAt(cell, stacks.topOf(cell));
@@ -681,7 +694,7 @@ public final class MazeDesk {
                 return NONE;
             }
             int door = doorKeys[place];
-            if (door != NONE && (keys >> door & 1) == 0) {
+            if (door != NONE && !holds(keys, door)) {
                 return NONE;
             }
             return board.ahead(cell, direction);
@@ -799,7 +812,9 @@ public final class MazeDesk {
         }
 
         private void startAt(int from) {
-            Arrays.fill(reached, false);
+            for (int cell = 0; cell < reached.length; cell++) {
+                reached[cell] = false;
+            }
             count = 0;
             reach(from);
         }
@@ -853,8 +868,7 @@ public final class MazeDesk {
                     wanted |= keysWantedAt(cell);
                 }
             }
-            wanted &= ~put;
-            return wanted == 0 ? NONE : Integer.numberOfTrailingZeros(wanted);
+            return lowestKey(wanted & ~put);
         }
 
         private int keysWantedAt(int cell) {
@@ -1053,8 +1067,8 @@ public final class MazeDesk {
             if (cell == maze.exitCell()) {
                 return 'E';
             }
-            int keys = maze.keysIn(cell);
-            return keys == 0 ? ' ' : (char) ('0' + Integer.numberOfTrailingZeros(keys));
+            int k = lowestKey(maze.keysIn(cell));
+            return k == NONE ? ' ' : (char) ('0' + k);
         }
 
         private char signBetweenRows(int column, int rowBelow) {
