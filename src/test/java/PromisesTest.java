@@ -446,6 +446,7 @@ public final class PromisesTest {
     private void promise10Braid() {
         MazeDesk row = made(4, 1, 0, 0);
         due("dead ends without a closed way", 0, row.braid(9));
+        due("cells without any open passage are none", 0, allPassages(3, 3, 0, false).braid(9));
         MazeDesk desk = combOfFive();
         due("none at most", 0, desk.braid(0));
         due("fewer than none", 0, desk.braid(-1));
@@ -824,6 +825,14 @@ public final class PromisesTest {
         due("an escape", true, desk.escape() >= 4);
         desk.key(0, NONE);
         due("after key", NONE, desk.escape());
+        desk.key(0, 0);
+        due("with the key", 4, desk.escape());
+        desk.open(5, UP, false);
+        due("closed", NONE, desk.escape());
+        due("placeKeys lifts the key", 0, desk.placeKeys(3));
+        desk.open(5, UP, true);
+        desk.door(0, 5, UP);
+        due("so there is none", NONE, desk.escape());
         desk.start(2);
         due("after start", 0, desk.escape());
         desk.exit(5);
