@@ -6,8 +6,7 @@ final class Checks {
     void due(String what, long want, long got) {
         made++;
         if (got != want) {
-            wrong++;
-            System.out.println(what + " answered " + got + ", due is " + want);
+            fail(what + " answered " + got + ", due is " + want);
         }
     }
 
@@ -18,9 +17,17 @@ final class Checks {
     void due(String what, String want, String got) {
         made++;
         if (!want.equals(got)) {
-            wrong++;
-            System.out.println(what + " answered\n" + got + "\ndue is\n" + want);
+            fail(what + " answered\n" + got + "\ndue is\n" + want);
         }
+    }
+
+    void fail(String what) {
+        wrong++;
+        System.out.println(what);
+    }
+
+    int made() {
+        return made;
     }
 
     int wrong() {

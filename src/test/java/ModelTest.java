@@ -1,29 +1,34 @@
 import java.util.Random;
 
-/** Long runs of calls, most of them sensible and some wrong, answered by MazeDesk as by PlainDesk. */
+/**
+ * Runs of calls, most of them sensible and some wrong, answered by MazeDesk as by PlainDesk. An object
+ * is called 512 times: what is left of these at the end goes into looking at one side of the maze.
+ */
 public final class ModelTest {
-    private static final int RUNS = 700;
-    private static final int CALLS = 400;
+    private static final int RUNS = 1200;
+    private static final int CALLS = 300;
     private static final int[] ODD = {-1, -2, 4, 5, 12, 143, 144, 145, 1000, Integer.MIN_VALUE, Integer.MAX_VALUE};
 
     private final Checks checks;
     private final Random random;
-    private final MazeDesk desk;
+    private final Desk desk;
     private final PlainDesk plain;
     private final int width;
     private final int height;
+    private final int sideToLookAt;
     private final StringBuilder told = new StringBuilder();
 
     private ModelTest(Checks checks, int run) {
         this.checks = checks;
         random = new Random(run);
+        sideToLookAt = run / 3 % 3;
         int longest = run % 3 == 0 ? 12 : run % 3 == 1 ? 4 : 6;
         width = 1 + random.nextInt(longest);
         height = 1 + random.nextInt(longest);
         int wrapped = random.nextInt(4);
         told.append("run ").append(run).append(": new(").append(width).append(", ").append(height)
                 .append(", ").append(wrapped).append(")");
-        desk = new MazeDesk(width, height, wrapped);
+        desk = new Desk(width, height, wrapped);
         plain = new PlainDesk(width, height, wrapped);
     }
 
@@ -38,10 +43,10 @@ public final class ModelTest {
     private void play() {
         cutSome();
         make();
-        for (int call = 0; call < CALLS && checks.wrong() == 0; call++) {
+        while (desk.callsLeft() > Desk.MOST_CALLS - CALLS && checks.wrong() == 0) {
             callSomething();
         }
-        lookAtAll();
+        lookAtOneSide();
         if (checks.wrong() != 0) {
             System.out.println(told);
         }
@@ -106,13 +111,11 @@ public final class ModelTest {
             move();
         } else if (kind < 96) {
             ask(random.nextInt(12));
-        } else if (kind < 98) {
+        } else if (kind < 99) {
             placeKeys();
-        } else if (random.nextInt(4) == 0) {
+        } else if (random.nextInt(2) == 0) {
             cut(random.nextBoolean());
             make();
-        } else {
-            lookAtPassages();
         }
     }
 
@@ -202,27 +205,50 @@ public final class ModelTest {
         same("escape()", plain.escape(), desk.escape());
     }
 
+    private void lookAtOneSide() {
+        lookAtSteps();
+        if (sideToLookAt == 0) {
+            lookAtDrawing();
+        } else if (sideToLookAt == 1) {
+            lookAtPassages();
+        } else {
+            lookAtStacks();
+        }
+    }
+
+    private void lookAtSteps() {
+        int steps = plain.escape();
+        same("escape()", steps, desk.escape());
+        for (int i = -1; i <= steps + 1 && desk.callsLeft() > 0; i++) {
+            same("step(" + i + ")", plain.step(i), desk.step(i));
+        }
+    }
+
     private void lookAtPassages() {
-        for (int cell = 0; cell < width * height; cell++) {
+        int first = random.nextInt(width * height);
+        for (int i = 0; i < width * height && desk.callsLeft() >= 4; i++) {
+            int cell = (first + i) % (width * height);
             for (int d = 0; d < 4; d++) {
                 same("passage(" + cell + ", " + d + ")", plain.passage(cell, d), desk.passage(cell, d));
             }
         }
     }
 
-    private void lookAtAll() {
-        lookAtPassages();
-        for (int cell = -1; cell <= width * height; cell++) {
+    private void lookAtStacks() {
+        int first = random.nextInt(width * height);
+        for (int i = 0; i < width * height && desk.callsLeft() >= 2; i++) {
+            int cell = (first + i) % (width * height);
             same("top(" + cell + ")", plain.top(cell), desk.top(cell));
             same("popped(" + cell + ")", plain.popped(cell), desk.popped(cell));
         }
-        int steps = plain.escape();
-        same("escape()", steps, desk.escape());
-        for (int i = -1; i <= steps + 1; i++) {
-            same("step(" + i + ")", plain.step(i), desk.step(i));
-        }
-        for (int i = -1; i <= (2 * width + 2) * (2 * height + 1); i++) {
-            same("drawing(" + i + ")", plain.drawing(i), desk.drawing(i));
+    }
+
+    private void lookAtDrawing() {
+        int bytes = (2 * width + 2) * (2 * height + 1);
+        int first = random.nextInt(bytes);
+        for (int i = 0; i < bytes && desk.callsLeft() > 0; i++) {
+            int b = (first + i) % bytes;
+            same("drawing(" + b + ")", plain.drawing(b), desk.drawing(b));
         }
     }
 }

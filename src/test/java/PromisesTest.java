@@ -56,41 +56,6 @@ public final class PromisesTest {
         checks.due(what, want, got);
     }
 
-    private static MazeDesk made(int width, int height, int wrapped, int root) {
-        MazeDesk desk = new MazeDesk(width, height, wrapped);
-        if (desk.make(1, root) != 1) {
-            throw new IllegalStateException("no maze");
-        }
-        return desk;
-    }
-
-    /** A maze in which all passages are open, or all closed, whatever was drawn. */
-    private static MazeDesk allPassages(int width, int height, int wrapped, boolean open) {
-        MazeDesk desk = made(width, height, wrapped, 0);
-        for (int cell = 0; cell < width * height; cell++) {
-            for (int d = 0; d < 4; d++) {
-                desk.open(cell, d, open);
-            }
-        }
-        return desk;
-    }
-
-    private static String picture(MazeDesk desk) {
-        StringBuilder text = new StringBuilder();
-        for (int i = 0; desk.drawing(i) != NONE; i++) {
-            text.append((char) desk.drawing(i));
-        }
-        return text.toString();
-    }
-
-    private static String walkOf(MazeDesk desk) {
-        StringBuilder text = new StringBuilder();
-        for (int i = 0; desk.step(i) != NONE; i++) {
-            text.append("^>v<".charAt(desk.step(i)));
-        }
-        return text.toString();
-    }
-
     private static long firstX(int seed, int cell) {
         return (seed + cell * -1640531535L) & 0xFFFFFFFFL;
     }
@@ -106,7 +71,7 @@ public final class PromisesTest {
             int width = Math.max(1, Math.min(12, size[0]));
             int height = Math.max(1, Math.min(12, size[1]));
             for (int wrapped : new int[] {0, 1, 2, 3, 4, 5, 6, 7, -1, -2, -3, -4, Integer.MIN_VALUE}) {
-                MazeDesk desk = new MazeDesk(size[0], size[1], wrapped);
+                Desk desk = new Desk(size[0], size[1], wrapped);
                 String name = size[0] + " x " + size[1] + " wrapped " + wrapped;
                 due(name + " is drawn", 1, desk.make(3, 0));
                 due(name + ": last byte", 10, desk.drawing((2 * width + 2) * (2 * height + 1) - 1));
@@ -124,14 +89,14 @@ public final class PromisesTest {
     }
 
     private void promise1Nothing() {
-        withoutMaze("new", new MazeDesk(3, 3, 3));
-        MazeDesk desk = new MazeDesk(2, 2, 0);
+        withoutMaze("new", new Desk(3, 3, 3));
+        Desk desk = new Desk(2, 2, 0);
         for (int cell = 0; cell < 4; cell++) {
             due("a new board has nothing cut", false, desk.cut(cell, false));
         }
     }
 
-    private void withoutMaze(String name, MazeDesk desk) {
+    private void withoutMaze(String name, Desk desk) {
         due(name + ": top", NONE, desk.top(1));
         due(name + ": popped", NONE, desk.popped(0));
         due(name + ": circles", NONE, desk.circles());
@@ -165,7 +130,7 @@ public final class PromisesTest {
     }
 
     private void promise2Cut() {
-        MazeDesk desk = new MazeDesk(3, 2, 0);
+        Desk desk = new Desk(3, 2, 0);
         due("cut", true, desk.cut(4, true));
         due("cut again", false, desk.cut(4, true));
         due("uncut another", false, desk.cut(3, false));
@@ -190,7 +155,7 @@ public final class PromisesTest {
     }
 
     private void promise3Make() {
-        MazeDesk desk = new MazeDesk(4, 1, 0);
+        Desk desk = new Desk(4, 1, 0);
         due("root -1", NONE, desk.make(5, -1));
         due("root 4", NONE, desk.make(5, 4));
         due("drawn", 1, desk.make(5, 3));
@@ -202,26 +167,25 @@ public final class PromisesTest {
         due("drawn anew", 1, desk.make(5, 0));
         desk.cut(3, true);
         due("root cut", NONE, desk.make(5, 3));
-        due("one cell", 1, new MazeDesk(1, 1, 3).make(0, 0));
-        MazeDesk large = new MazeDesk(12, 12, 0);
+        due("one cell", 1, new Desk(1, 1, 3).make(0, 0));
         for (int seed = -20; seed < 20; seed++) {
+            Desk large = new Desk(12, 12, 0);
             due("large", 1, large.make(seed * 123456789, (seed + 20) * 3));
             due("a tree has one passage less than cells", 143, openPassages(large));
         }
     }
 
-    private static int openPassages(MazeDesk desk) {
-        int sides = 0;
+    private static int openPassages(Desk desk) {
+        int open = 0;
         for (int cell = 0; cell < 144; cell++) {
-            for (int d = 0; d < 4; d++) {
-                sides += desk.passage(cell, d) == 1 ? 1 : 0;
-            }
+            open += desk.passage(cell, RIGHT) == 1 ? 1 : 0;
+            open += desk.passage(cell, DOWN) == 1 ? 1 : 0;
         }
-        return sides / 2;
+        return open;
     }
 
     private void promise3MakeRefused() {
-        MazeDesk desk = new MazeDesk(4, 1, 0);
+        Desk desk = new Desk(4, 1, 0);
         due("maze", 1, desk.make(5, 0));
         desk.cut(1, true);
         due("apart", 0, desk.make(5, 0));
@@ -231,19 +195,19 @@ public final class PromisesTest {
         desk.cut(0, true);
         due("what is cut need not be joined", 1, desk.make(5, 2));
         due("root", 2, desk.player(0));
-        MazeDesk ring = new MazeDesk(4, 1, 1);
+        Desk ring = new Desk(4, 1, 1);
         ring.cut(1, true);
         due("a ring holds together without one", 1, ring.make(5, 0));
         ring.cut(3, true);
         due("and not without two", 0, ring.make(5, 0));
-        MazeDesk corners = new MazeDesk(2, 2, 0);
+        Desk corners = new Desk(2, 2, 0);
         corners.cut(0, true);
         corners.cut(3, true);
         due("no ways across corners", 0, corners.make(5, 1));
     }
 
     private void promise3NewMaze() {
-        MazeDesk desk = made(4, 1, 0, 0);
+        Desk desk = Desk.made(4, 1, 0, 0);
         desk.exit(3);
         desk.key(1, 2);
         desk.key(2, 0);
@@ -257,7 +221,7 @@ public final class PromisesTest {
         due("player's keys", 0, desk.player(1));
         due("player's steps", 0, desk.player(2));
         due("no exit", NONE, desk.escape());
-        checks.due("all as new", "+-+-+-+-+\n|    S  |\n+-+-+-+-+\n", picture(desk));
+        checks.due("all as new", "+-+-+-+-+\n|    S  |\n+-+-+-+-+\n", desk.picture());
         due("cells joined", true, desk.walk(LEFT) && desk.walk(LEFT) && desk.walk(RIGHT));
         due("no key was left", 0, desk.player(1));
     }
@@ -272,7 +236,7 @@ public final class PromisesTest {
                 pops++;
                 x = nextX(x);
             }
-            MazeDesk desk = new MazeDesk(3, 1, 0);
+            Desk desk = new Desk(3, 1, 0);
             due("row of three", 1, desk.make(s, 0));
             due("top of the middle", LEFT, desk.top(1));
             due("top of the last", LEFT, desk.top(2));
@@ -284,7 +248,7 @@ public final class PromisesTest {
     }
 
     private void promise3To6Board() {
-        MazeDesk desk = new MazeDesk(3, 3, 0);
+        Desk desk = new Desk(3, 3, 0);
         desk.make(7, 4);
         int[] tops = {RIGHT, RIGHT, DOWN, RIGHT, NONE, LEFT, UP, RIGHT, UP};
         for (int cell = 0; cell < 9; cell++) {
@@ -309,10 +273,10 @@ public final class PromisesTest {
         due("top of a cut cell", NONE, desk.top(0));
         due("popped of a cut cell", NONE, desk.popped(0));
         due("popped at the root", 0, desk.popped(4));
-        due("no circles in one cell", 0, made(1, 1, 3, 0).circles());
-        due("nor between a cell and its root", 0, made(2, 2, 0, 0).popped(0));
-        due("two cells", 0, made(2, 1, 0, 1).circles());
-        MazeDesk twice = new MazeDesk(12, 12, 3);
+        due("no circles in one cell", 0, Desk.made(1, 1, 3, 0).circles());
+        due("nor between a cell and its root", 0, Desk.made(2, 2, 0, 0).popped(0));
+        due("two cells", 0, Desk.made(2, 1, 0, 1).circles());
+        Desk twice = new Desk(12, 12, 3);
         twice.make(99, 5);
         int circles = twice.circles();
         int pops = poppedInAll(twice, 144);
@@ -321,7 +285,7 @@ public final class PromisesTest {
         due("pops are counted anew", pops, poppedInAll(twice, 144));
     }
 
-    private static int poppedInAll(MazeDesk desk, int cells) {
+    private static int poppedInAll(Desk desk, int cells) {
         int sum = 0;
         for (int cell = 0; cell < cells; cell++) {
             sum += desk.popped(cell);
@@ -330,22 +294,22 @@ public final class PromisesTest {
     }
 
     private void promise7Trees() {
-        due("1 x 1", 1, new MazeDesk(1, 1, 3).trees());
-        due("2 x 1", 1, new MazeDesk(2, 1, 0).trees());
-        due("2 x 1 wrapped: two passages", 2, new MazeDesk(2, 1, 1).trees());
-        due("12 x 1", 1, new MazeDesk(12, 1, 0).trees());
-        due("a ring of 12", 12, new MazeDesk(1, 12, 2).trees());
-        due("a ring only if wrapped that way", 1, new MazeDesk(1, 12, 1).trees());
-        due("2 x 2", 4, new MazeDesk(2, 2, 0).trees());
-        due("2 x 8", 10864, new MazeDesk(2, 8, 0).trees());
-        due("3 x 3", 192, new MazeDesk(3, 3, 0).trees());
-        due("3 x 4", 2415, new MazeDesk(3, 4, 0).trees());
-        due("3 x 5", 30305, new MazeDesk(3, 5, 0).trees());
-        due("4 x 4", 100352, new MazeDesk(4, 4, 0).trees());
-        due("3 x 3 wrapped", 11664, new MazeDesk(3, 3, 3).trees());
-        due("4 x 4 wrapped", 42467328, new MazeDesk(4, 4, 3).trees());
-        due("17 cells and more", NONE, new MazeDesk(6, 3, 0).trees());
-        MazeDesk desk = new MazeDesk(6, 3, 0);
+        due("1 x 1", 1, new Desk(1, 1, 3).trees());
+        due("2 x 1", 1, new Desk(2, 1, 0).trees());
+        due("2 x 1 wrapped: two passages", 2, new Desk(2, 1, 1).trees());
+        due("12 x 1", 1, new Desk(12, 1, 0).trees());
+        due("a ring of 12", 12, new Desk(1, 12, 2).trees());
+        due("a ring only if wrapped that way", 1, new Desk(1, 12, 1).trees());
+        due("2 x 2", 4, new Desk(2, 2, 0).trees());
+        due("2 x 8", 10864, new Desk(2, 8, 0).trees());
+        due("3 x 3", 192, new Desk(3, 3, 0).trees());
+        due("3 x 4", 2415, new Desk(3, 4, 0).trees());
+        due("3 x 5", 30305, new Desk(3, 5, 0).trees());
+        due("4 x 4", 100352, new Desk(4, 4, 0).trees());
+        due("3 x 3 wrapped", 11664, new Desk(3, 3, 3).trees());
+        due("4 x 4 wrapped", 42467328, new Desk(4, 4, 3).trees());
+        due("17 cells and more", NONE, new Desk(6, 3, 0).trees());
+        Desk desk = new Desk(6, 3, 0);
         desk.cut(0, true);
         due("17 cells", NONE, desk.trees());
         desk.cut(1, true);
@@ -353,12 +317,12 @@ public final class PromisesTest {
         desk.cut(8, true);
         desk.cut(14, true);
         due("apart", 0, desk.trees());
-        MazeDesk none = new MazeDesk(2, 1, 0);
+        Desk none = new Desk(2, 1, 0);
         none.cut(0, true);
         due("one of two", 1, none.trees());
         none.cut(1, true);
         due("no cell", NONE, none.trees());
-        MazeDesk drawn = made(3, 3, 0, 0);
+        Desk drawn = Desk.made(3, 3, 0, 0);
         drawn.open(0, RIGHT, false);
         drawn.open(0, DOWN, false);
         due("what is open does not matter", 192, drawn.trees());
@@ -370,7 +334,7 @@ public final class PromisesTest {
         int[][] boards = {{3, 3, 0, 0}, {3, 3, 1, 0}, {3, 3, 3, 0}, {2, 4, 3, 0}, {2, 3, 2, 1}, {4, 2, 1, 16},
             {3, 3, 0, 16}, {3, 3, 3, 1 + 16}, {5, 2, 0, 4 + 128}, {4, 3, 2, 1 + 2 + 32 + 64}};
         for (int[] b : boards) {
-            MazeDesk desk = new MazeDesk(b[0], b[1], b[2]);
+            Desk desk = new Desk(b[0], b[1], b[2]);
             for (int cell = 0; cell < b[0] * b[1]; cell++) {
                 if ((b[3] >> cell & 1) == 1) {
                     desk.cut(cell, true);
@@ -382,7 +346,7 @@ public final class PromisesTest {
     }
 
     private void promise8Passage() {
-        MazeDesk desk = made(3, 1, 0, 1);
+        Desk desk = Desk.made(3, 1, 0, 1);
         due("open", 1, desk.passage(0, RIGHT));
         due("open from the other side", 1, desk.passage(1, LEFT));
         due("no way left", NONE, desk.passage(0, LEFT));
@@ -404,19 +368,19 @@ public final class PromisesTest {
         desk.make(1, 0);
         due("into a cut cell", NONE, desk.passage(1, RIGHT));
         due("out of a cut cell", NONE, desk.passage(2, LEFT));
-        MazeDesk two = allPassages(2, 1, 1, false);
+        Desk two = Desk.closed(2, 1, 1);
         two.open(0, LEFT, true);
         due("one of two between the same cells", 1, two.passage(1, RIGHT));
         due("the other of them", 0, two.passage(0, RIGHT));
         due("and from the other side", 0, two.passage(1, LEFT));
-        MazeDesk rows = allPassages(2, 2, 0, false);
+        Desk rows = Desk.closed(2, 2, 0);
         rows.open(2, UP, true);
         due("down", 1, rows.passage(0, DOWN));
         due("beside it", 0, rows.passage(1, DOWN));
     }
 
     private void promise9Open() {
-        MazeDesk desk = made(3, 1, 0, 0);
+        Desk desk = Desk.made(3, 1, 0, 0);
         due("is open", false, desk.open(0, RIGHT, true));
         due("close", true, desk.open(0, RIGHT, false));
         due("is closed", false, desk.open(1, LEFT, false));
@@ -433,21 +397,21 @@ public final class PromisesTest {
         }
         desk.door(2, 0, RIGHT);
         desk.oneWay(1, RIGHT);
-        checks.due("a door and a one-way", "+-+-+-+\n|Sc > |\n+-+-+-+\n", picture(desk));
+        checks.due("a door and a one-way", "+-+-+-+\n|Sc > |\n+-+-+-+\n", desk.picture());
         due("what is open stays as it is", false, desk.open(0, RIGHT, true) || desk.open(1, RIGHT, true));
-        checks.due("still there", "+-+-+-+\n|Sc > |\n+-+-+-+\n", picture(desk));
+        checks.due("still there", "+-+-+-+\n|Sc > |\n+-+-+-+\n", desk.picture());
         due("close the door", true, desk.open(1, LEFT, false));
         due("close the one-way", true, desk.open(2, LEFT, false));
-        checks.due("closed", "+-+-+-+\n|S| | |\n+-+-+-+\n", picture(desk));
+        checks.due("closed", "+-+-+-+\n|S| | |\n+-+-+-+\n", desk.picture());
         due("open", true, desk.open(0, RIGHT, true) && desk.open(1, RIGHT, true));
-        checks.due("without a door, and both ways", "+-+-+-+\n|S    |\n+-+-+-+\n", picture(desk));
+        checks.due("without a door, and both ways", "+-+-+-+\n|S    |\n+-+-+-+\n", desk.picture());
     }
 
     private void promise10Braid() {
-        MazeDesk row = made(4, 1, 0, 0);
+        Desk row = Desk.made(4, 1, 0, 0);
         due("dead ends without a closed way", 0, row.braid(9));
-        due("cells without any open passage are none", 0, allPassages(3, 3, 0, false).braid(9));
-        MazeDesk desk = combOfFive();
+        due("cells without any open passage are none", 0, Desk.closed(3, 3, 0).braid(9));
+        Desk desk = combOfFive();
         due("none at most", 0, desk.braid(0));
         due("fewer than none", 0, desk.braid(-1));
         due("and fewest", 0, desk.braid(Integer.MIN_VALUE));
@@ -461,8 +425,8 @@ public final class PromisesTest {
     }
 
     /** Five columns that hang on the last row: the five cells above are dead ends. */
-    private static MazeDesk combOfFive() {
-        MazeDesk desk = allPassages(5, 2, 0, false);
+    private static Desk combOfFive() {
+        Desk desk = Desk.closed(5, 2, 0);
         for (int x = 0; x < 5; x++) {
             desk.open(x, DOWN, true);
             desk.open(5 + x, RIGHT, true);
@@ -471,18 +435,18 @@ public final class PromisesTest {
     }
 
     private void promise10BraidInOrder() {
-        MazeDesk desk = combOfFive();
+        Desk desk = combOfFive();
         desk.braid(9);
         // 0 is joined to 1, which is none then; 2 to 3, which is none then; 4 has a way left alone.
         checks.due("in the order of cells", "+-+-+-+-+-+\n|S  |     |\n+ + + + + +\n|         |\n+-+-+-+-+-+\n",
-                picture(desk));
+                desk.picture());
         due("none is left", 0, desk.deadEnds());
     }
 
     private void promise11DeadEnds() {
-        due("one cell", 0, made(1, 1, 0, 0).deadEnds());
-        due("a row", 2, made(5, 1, 0, 2).deadEnds());
-        MazeDesk desk = allPassages(3, 3, 0, false);
+        due("one cell", 0, Desk.made(1, 1, 0, 0).deadEnds());
+        due("a row", 2, Desk.made(5, 1, 0, 2).deadEnds());
+        Desk desk = Desk.closed(3, 3, 0);
         due("all closed", 0, desk.deadEnds());
         desk.open(4, UP, true);
         due("a pair", 2, desk.deadEnds());
@@ -493,14 +457,14 @@ public final class PromisesTest {
         desk.door(1, 4, UP);
         desk.oneWay(4, LEFT);
         due("doors and one-ways are open", 3, desk.deadEnds());
-        MazeDesk two = allPassages(2, 1, 1, true);
+        Desk two = Desk.opened(2, 1, 1);
         due("two passages between two cells", 0, two.deadEnds());
         two.open(0, LEFT, false);
         due("one of them closed", 2, two.deadEnds());
     }
 
     private void promise12Key() {
-        MazeDesk desk = new MazeDesk(3, 2, 0);
+        Desk desk = new Desk(3, 2, 0);
         desk.cut(5, true);
         desk.make(1, 0);
         for (int k = 0; k < 4; k++) {
@@ -529,7 +493,7 @@ public final class PromisesTest {
     }
 
     private void promise13Door() {
-        MazeDesk desk = made(3, 1, 0, 0);
+        Desk desk = Desk.made(3, 1, 0, 0);
         for (int k = 0; k < 4; k++) {
             due("door " + k, true, desk.door(k, 0, RIGHT));
             due("as it is", true, desk.door(k, 1, LEFT));
@@ -558,7 +522,7 @@ public final class PromisesTest {
     }
 
     private void promise14OneWay() {
-        MazeDesk desk = made(3, 1, 0, 0);
+        Desk desk = Desk.made(3, 1, 0, 0);
         due("to the right", true, desk.oneWay(0, RIGHT));
         due("there", true, desk.walk(RIGHT));
         due("not back", false, desk.walk(LEFT));
@@ -580,12 +544,12 @@ public final class PromisesTest {
         }
         desk.open(1, RIGHT, false);
         due("closed", false, desk.oneWay(1, RIGHT));
-        MazeDesk column = made(1, 2, 0, 0);
+        Desk column = Desk.made(1, 2, 0, 0);
         column.oneWay(1, UP);
         due("not down", false, column.walk(DOWN));
         column.start(1);
         due("up", true, column.walk(UP));
-        MazeDesk two = allPassages(2, 1, 1, true);
+        Desk two = Desk.opened(2, 1, 1);
         two.oneWay(0, RIGHT);
         two.oneWay(1, RIGHT);
         due("round", true, two.walk(RIGHT) && two.walk(RIGHT) && two.walk(RIGHT));
@@ -596,7 +560,7 @@ public final class PromisesTest {
     }
 
     private void promise15Start() {
-        MazeDesk desk = new MazeDesk(3, 2, 0);
+        Desk desk = new Desk(3, 2, 0);
         desk.cut(5, true);
         desk.make(1, 0);
         desk.key(2, 1);
@@ -617,7 +581,7 @@ public final class PromisesTest {
             due("far off", false, desk.start(cell));
         }
         due("still there", 1, desk.player(0));
-        MazeDesk row = made(3, 1, 0, 0);
+        Desk row = Desk.made(3, 1, 0, 0);
         row.walk(RIGHT);
         due("not there", false, row.start(3));
         due("nothing happens", 1, row.player(2));
@@ -629,7 +593,7 @@ public final class PromisesTest {
     }
 
     private void promise16Exit() {
-        MazeDesk desk = new MazeDesk(4, 1, 0);
+        Desk desk = new Desk(4, 1, 0);
         desk.cut(3, true);
         desk.make(1, 0);
         due("no exit at first", NONE, desk.escape());
@@ -652,7 +616,7 @@ public final class PromisesTest {
     }
 
     private void promise17PlaceKeys() {
-        MazeDesk desk = made(5, 1, 0, 0);
+        Desk desk = Desk.made(5, 1, 0, 0);
         desk.key(0, 0);
         desk.key(3, 4);
         due("no exit", NONE, desk.placeKeys(1));
@@ -681,12 +645,12 @@ public final class PromisesTest {
     }
 
     private void promise17PlaceKeysFails() {
-        MazeDesk desk = made(5, 1, 0, 0);
+        Desk desk = Desk.made(5, 1, 0, 0);
         desk.exit(4);
         desk.open(2, RIGHT, false);
         desk.key(0, 1);
         due("a wall", 0, desk.placeKeys(1));
-        checks.due("keys lie nowhere", "+-+-+-+-+-+\n|S    |  E|\n+-+-+-+-+-+\n", picture(desk));
+        checks.due("keys lie nowhere", "+-+-+-+-+-+\n|S    |  E|\n+-+-+-+-+-+\n", desk.picture());
         desk.door(3, 0, RIGHT);
         due("a wall behind a door", 0, desk.placeKeys(1));
         desk.again();
@@ -709,7 +673,7 @@ public final class PromisesTest {
     private void promise17PlaceKeysBySeed() {
         for (int seed = -100; seed < 100; seed++) {
             int s = seed * 40503077;
-            MazeDesk desk = made(9, 1, 0, 4);
+            Desk desk = Desk.made(9, 1, 0, 4);
             desk.exit(8);
             desk.door(2, 5, RIGHT);
             desk.oneWay(3, LEFT);
@@ -728,7 +692,7 @@ public final class PromisesTest {
     }
 
     private void promise17DoorsThatCount() {
-        MazeDesk desk = allPassages(3, 2, 0, false);
+        Desk desk = Desk.closed(3, 2, 0);
         desk.open(0, RIGHT, true);
         desk.open(1, RIGHT, true);
         desk.open(0, DOWN, true);
@@ -749,7 +713,7 @@ public final class PromisesTest {
         desk.oneWay(3, UP);
         due("from one side of the two is enough", 1, desk.placeKeys(4));
         due("so key 1 was put", true, lies(desk, 1));
-        MazeDesk row = made(4, 1, 0, 0);
+        Desk row = Desk.made(4, 1, 0, 0);
         row.exit(3);
         row.door(0, 2, RIGHT);
         row.door(1, 1, RIGHT);
@@ -758,7 +722,7 @@ public final class PromisesTest {
         due("no key", false, lies(row, 0) || lies(row, 1));
     }
 
-    private static boolean lies(MazeDesk desk, int k) {
+    private static boolean lies(Desk desk, int k) {
         for (int cell = 0; desk.start(cell); cell++) {
             if ((desk.player(1) >> k & 1) == 1) {
                 desk.start(0);
@@ -770,7 +734,7 @@ public final class PromisesTest {
     }
 
     private void promise18Escape() {
-        MazeDesk desk = made(6, 1, 0, 2);
+        Desk desk = Desk.made(6, 1, 0, 2);
         desk.exit(5);
         due("three steps", 3, desk.escape());
         desk.door(1, 3, RIGHT);
@@ -779,7 +743,7 @@ public final class PromisesTest {
         due("the key is behind it", NONE, desk.escape());
         desk.key(1, 0);
         due("the key is the other way", 7, desk.escape());
-        checks.due("there and back", "<<>>>>>", walkOf(desk));
+        checks.due("there and back", "<<>>>>>", desk.escapeSteps());
         desk.key(1, 2);
         due("the key is at the start", 3, desk.escape());
         desk.key(1, 1);
@@ -795,7 +759,7 @@ public final class PromisesTest {
         due("a one-way there that does not lead back", NONE, desk.escape());
         desk.oneWay(2, LEFT);
         due("both ways", 5, desk.escape());
-        MazeDesk all = made(9, 1, 0, 4);
+        Desk all = Desk.made(9, 1, 0, 4);
         all.exit(8);
         for (int k = 0; k < 4; k++) {
             all.door(k, 4 + k, RIGHT);
@@ -807,14 +771,14 @@ public final class PromisesTest {
     }
 
     private void promise18EscapeAfterChanges() {
-        MazeDesk desk = allPassages(3, 2, 0, true);
+        Desk desk = Desk.opened(3, 2, 0);
         desk.exit(2);
         due("open", 2, desk.escape());
         desk.open(1, RIGHT, false);
         due("after open", 4, desk.escape());
         desk.oneWay(4, LEFT);
         due("after oneWay", 4, desk.escape());
-        checks.due("over the middle", ">v>^", walkOf(desk));
+        checks.due("over the middle", ">v>^", desk.escapeSteps());
         desk.oneWay(4, UP);
         due("after another", NONE, desk.escape());
         desk.oneWay(4, LEFT);
@@ -842,7 +806,7 @@ public final class PromisesTest {
         desk.make(1, 0);
         due("after make", NONE, desk.escape());
         due("and no step", NONE, desk.step(0));
-        MazeDesk ends = allPassages(2, 2, 0, true);
+        Desk ends = Desk.opened(2, 2, 0);
         ends.open(0, RIGHT, false);
         ends.exit(1);
         due("around", 3, ends.escape());
@@ -855,7 +819,7 @@ public final class PromisesTest {
     }
 
     private void promise19Step() {
-        MazeDesk desk = made(1, 4, 0, 0);
+        Desk desk = Desk.made(1, 4, 0, 0);
         due("no exit", NONE, desk.step(0));
         desk.exit(3);
         for (int i = 0; i < 3; i++) {
@@ -878,44 +842,44 @@ public final class PromisesTest {
     }
 
     private void promise19FirstByDirections() {
-        MazeDesk desk = allPassages(4, 3, 0, true);
+        Desk desk = Desk.opened(4, 3, 0);
         desk.exit(11);
-        checks.due("right before down", ">>>vv", walkOf(desk));
+        checks.due("right before down", ">>>vv", desk.escapeSteps());
         desk.start(11);
         desk.exit(0);
-        checks.due("up before left", "^^<<<", walkOf(desk));
+        checks.due("up before left", "^^<<<", desk.escapeSteps());
         desk.start(3);
         desk.exit(8);
-        checks.due("down before left", "vv<<<", walkOf(desk));
+        checks.due("down before left", "vv<<<", desk.escapeSteps());
         desk.start(8);
         desk.exit(3);
-        checks.due("up before right", "^^>>>", walkOf(desk));
+        checks.due("up before right", "^^>>>", desk.escapeSteps());
         desk.open(4, UP, false);
-        checks.due("up as soon as can be", "^>^>>", walkOf(desk));
-        MazeDesk ring = allPassages(4, 1, 1, true);
+        checks.due("up as soon as can be", "^>^>>", desk.escapeSteps());
+        Desk ring = Desk.opened(4, 1, 1);
         ring.exit(2);
-        checks.due("right round before left round", ">>", walkOf(ring));
+        checks.due("right round before left round", ">>", ring.escapeSteps());
         ring.start(3);
         ring.exit(1);
-        checks.due("and over the end", ">>", walkOf(ring));
-        MazeDesk two = allPassages(2, 1, 1, true);
+        checks.due("and over the end", ">>", ring.escapeSteps());
+        Desk two = Desk.opened(2, 1, 1);
         two.exit(1);
-        checks.due("two passages to one cell", ">", walkOf(two));
+        checks.due("two passages to one cell", ">", two.escapeSteps());
         two.open(0, RIGHT, false);
-        checks.due("the other", "<", walkOf(two));
-        MazeDesk keys = allPassages(3, 3, 0, true);
+        checks.due("the other", "<", two.escapeSteps());
+        Desk keys = Desk.opened(3, 3, 0);
         keys.start(4);
         keys.exit(8);
         keys.door(0, 8, UP);
         keys.door(0, 8, LEFT);
         keys.key(0, 3);
-        checks.due("a key on the left", "<>>v", walkOf(keys));
+        checks.due("a key on the left", "<>>v", keys.escapeSteps());
         keys.key(0, 1);
-        checks.due("a key above", "^>vv", walkOf(keys));
+        checks.due("a key above", "^>vv", keys.escapeSteps());
     }
 
     private void promise20Walk() {
-        MazeDesk desk = allPassages(2, 2, 0, true);
+        Desk desk = Desk.opened(2, 2, 0);
         due("right", true, desk.walk(RIGHT));
         due("down", true, desk.walk(DOWN));
         due("left", true, desk.walk(LEFT));
@@ -943,7 +907,7 @@ public final class PromisesTest {
         desk.door(2, 0, DOWN);
         due("another door", false, desk.walk(DOWN));
         due("steps", 2, desk.player(2));
-        MazeDesk row = made(4, 1, 0, 0);
+        Desk row = Desk.made(4, 1, 0, 0);
         row.door(0, 2, RIGHT);
         due("to the door", true, row.walk(RIGHT) && row.walk(RIGHT));
         row.key(0, 1);
@@ -952,7 +916,7 @@ public final class PromisesTest {
         due("he comes there again", true, row.walk(LEFT) && row.walk(RIGHT));
         due("both keys", 3, row.player(1));
         due("through the door", true, row.walk(RIGHT));
-        MazeDesk over = allPassages(3, 3, 3, true);
+        Desk over = Desk.opened(3, 3, 3);
         due("over the upper end", true, over.walk(UP));
         due("there", 6, over.player(0));
         due("over the left end", true, over.walk(LEFT));
@@ -964,7 +928,7 @@ public final class PromisesTest {
     }
 
     private void promise21Again() {
-        MazeDesk desk = made(4, 1, 0, 1);
+        Desk desk = Desk.made(4, 1, 0, 1);
         desk.key(2, 2);
         desk.walk(RIGHT);
         desk.walk(RIGHT);
@@ -986,7 +950,7 @@ public final class PromisesTest {
     }
 
     private void promise22Player() {
-        MazeDesk desk = made(4, 1, 0, 3);
+        Desk desk = Desk.made(4, 1, 0, 3);
         due("cell", 3, desk.player(0));
         due("keys", 0, desk.player(1));
         due("steps", 0, desk.player(2));
@@ -1013,11 +977,11 @@ public final class PromisesTest {
     }
 
     private void promise23Drawing() {
-        MazeDesk seven = new MazeDesk(3, 3, 0);
+        Desk seven = new Desk(3, 3, 0);
         seven.make(7, 4);
-        checks.due("as drawn", "+-+-+-+\n|     |\n+-+-+ +\n|  S  |\n+ +-+ +\n| |   |\n+-+-+-+\n", picture(seven));
-        checks.due("one cell", "+-+\n|S|\n+-+\n", picture(made(1, 1, 3, 0)));
-        MazeDesk desk = new MazeDesk(4, 3, 0);
+        checks.due("as drawn", "+-+-+-+\n|     |\n+-+-+ +\n|  S  |\n+ +-+ +\n| |   |\n+-+-+-+\n", seven.picture());
+        checks.due("one cell", "+-+\n|S|\n+-+\n", Desk.made(1, 1, 3, 0).picture());
+        Desk desk = new Desk(4, 3, 0);
         desk.cut(5, true);
         desk.make(1, 0);
         for (int cell = 0; cell < 12; cell++) {
@@ -1025,7 +989,7 @@ public final class PromisesTest {
                 desk.open(cell, d, true);
             }
         }
-        checks.due("a cut cell", "+-+-+-+-+\n|S      |\n+ +-+ + +\n| |#|   |\n+ +-+ + +\n|       |\n+-+-+-+-+\n", picture(desk));
+        checks.due("a cut cell", "+-+-+-+-+\n|S      |\n+ +-+ + +\n| |#|   |\n+ +-+ + +\n|       |\n+-+-+-+-+\n", desk.picture());
         desk.exit(7);
         desk.key(3, 10);
         desk.key(2, 10);
@@ -1041,13 +1005,13 @@ public final class PromisesTest {
         desk.door(2, 8, RIGHT);
         desk.door(3, 11, LEFT);
         desk.oneWay(8, RIGHT);
-        checks.due("all signs", "+-+-+-+-+\n|S> <   |\n+v+-+a+b+\n| |#|  E|\n+^+-+ + +\n|1c  2d |\n+-+-+-+-+\n", picture(desk));
+        checks.due("all signs", "+-+-+-+-+\n|S> <   |\n+v+-+a+b+\n| |#|  E|\n+^+-+ + +\n|1c  2d |\n+-+-+-+-+\n", desk.picture());
         desk.exit(0);
         desk.door(NONE, 8, RIGHT);
         desk.key(2, NONE);
         desk.key(0, 7);
         desk.open(3, DOWN, false);
-        checks.due("the start before the exit", "+-+-+-+-+\n|S> <   |\n+v+-+a+-+\n| |#|  0|\n+^+-+ + +\n|1>  3d |\n+-+-+-+-+\n", picture(desk));
+        checks.due("the start before the exit", "+-+-+-+-+\n|S> <   |\n+v+-+a+-+\n| |#|  0|\n+^+-+ + +\n|1>  3d |\n+-+-+-+-+\n", desk.picture());
         desk.exit(7);
         due("the exit before a key", 'E', desk.drawing(3 * 10 + 7));
         desk.walk(RIGHT);
@@ -1061,24 +1025,24 @@ public final class PromisesTest {
     }
 
     private void promise23DrawingWrapped() {
-        MazeDesk desk = allPassages(2, 2, 3, true);
-        checks.due("open on all sides", "+ + +\n S   \n+ + +\n     \n+ + +\n", picture(desk));
+        Desk desk = Desk.opened(2, 2, 3);
+        checks.due("open on all sides", "+ + +\n S   \n+ + +\n     \n+ + +\n", desk.picture());
         desk.oneWay(0, UP);
         desk.oneWay(3, DOWN);
         desk.oneWay(0, LEFT);
         desk.oneWay(3, RIGHT);
-        checks.due("at both ends alike", "+^+v+\n<S  <\n+ + +\n>   >\n+^+v+\n", picture(desk));
+        checks.due("at both ends alike", "+^+v+\n<S  <\n+ + +\n>   >\n+^+v+\n", desk.picture());
         desk.door(1, 2, DOWN);
         desk.door(2, 1, RIGHT);
-        checks.due("doors too", "+b+v+\ncS  c\n+ + +\n>   >\n+b+v+\n", picture(desk));
+        checks.due("doors too", "+b+v+\ncS  c\n+ + +\n>   >\n+b+v+\n", desk.picture());
         desk.open(0, RIGHT, false);
         desk.open(2, UP, false);
         desk.open(2, LEFT, false);
-        checks.due("closed", "+b+v+\ncS| c\n+-+ +\n|   |\n+b+v+\n", picture(desk));
-        checks.due("wrapped to itself", "+-+\n|S|\n+ +\n| |\n+-+\n", picture(made(1, 2, 1, 0)));
-        MazeDesk cut = new MazeDesk(3, 1, 1);
+        checks.due("closed", "+b+v+\ncS| c\n+-+ +\n|   |\n+b+v+\n", desk.picture());
+        checks.due("wrapped to itself", "+-+\n|S|\n+ +\n| |\n+-+\n", Desk.made(1, 2, 1, 0).picture());
+        Desk cut = new Desk(3, 1, 1);
         cut.cut(2, true);
         cut.make(1, 0);
-        checks.due("cut at the end", "+-+-+-+\n|S  |#|\n+-+-+-+\n", picture(cut));
+        checks.due("cut at the end", "+-+-+-+\n|S  |#|\n+-+-+-+\n", cut.picture());
     }
 }
