@@ -7,7 +7,7 @@ import java.lang.annotation.Target;
 @Retention(RetentionPolicy.RUNTIME)
 @Target(ElementType.METHOD)
 @interface Edge {
-    /** The promise's number; 0 is the section "Terms". */
+    /** The promise's number; 0 is what stands before them, "What it is" and "Terms". */
     int of();
 
     /** The document's own words. */

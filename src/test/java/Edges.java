@@ -54,7 +54,7 @@ abstract class Edges {
         }
         if (checks.wrong() != wrongBefore) {
             Edge edge = test.getAnnotation(Edge.class);
-            String where = edge.of() == 0 ? "Terms" : "Promise " + edge.of();
+            String where = edge.of() == 0 ? "Before the promises" : "Promise " + edge.of();
             System.out.println("FAILED EDGE " + test.getName() + ". " + where + ": \"" + edge.says() + "\"");
         }
     }

@@ -222,6 +222,24 @@ public final class EdgesOfPassagesTest extends Edges {
         due("one more", 1, desk.braid(1));
         due("of cell 4", "+-+-+-+-+-+\n|S  |     |\n+ + + + + +\n|         |\n+-+-+-+-+-+\n", desk.picture());
         due("no more", 0, desk.braid(1));
+        Desk atOnce = combOfFive();
+        due("all at once", 3, atOnce.braid(3));
+        due("the same", desk.picture(), atOnce.picture());
+    }
+
+    @Edge(of = 10, says = "Cell by cell, in order, where just one passage is open")
+    void braidGoesOverTheCellsOnce() {
+        // Cell 3 opens to cell 0, which had none: by then cell 0's turn is over.
+        Desk desk = Desk.closed(3, 2, 0);
+        desk.open(3, RIGHT, true);
+        desk.open(4, RIGHT, true);
+        desk.open(4, UP, true);
+        desk.open(1, RIGHT, true);
+        desk.open(2, DOWN, true);
+        due("one", 1, desk.braid(9));
+        due("from cell 3", "+-+-+-+\n|S|   |\n+ + + +\n|     |\n+-+-+-+\n", desk.picture());
+        due("cell 0, the next time", 1, desk.braid(9));
+        due("to the right", 1, desk.passage(0, RIGHT));
     }
 
     @Edge(of = 10, says = "where just one passage is open")

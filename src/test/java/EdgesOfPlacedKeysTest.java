@@ -189,6 +189,26 @@ public final class EdgesOfPlacedKeysTest extends Edges {
     }
 
     @Edge(of = 17, says = "and that stand on a passage that one can walk (but for the door) from a cell of REACH")
+    void aDoorInEachDirectionCounts() {
+        int[] beside = {1, 5, 7, 3};
+        for (int d = 0; d < 4; d++) {
+            Desk desk = Desk.closed(3, 3, 0);
+            desk.start(4);
+            desk.exit(beside[d]);
+            desk.open(4, d, true);
+            desk.door(2, 4, d);
+            due("placed, door " + d, 1, desk.placeKeys(3));
+            due("key 2 at the start", 4, cellOf(desk, 2));
+        }
+        Desk over = Desk.opened(3, 1, 1);
+        over.open(0, RIGHT, false);
+        over.exit(2);
+        over.door(2, 2, RIGHT);
+        due("placed, over the end", 1, over.placeKeys(3));
+        due("key 2 at the start", 0, cellOf(over, 2));
+    }
+
+    @Edge(of = 17, says = "and that stand on a passage that one can walk (but for the door) from a cell of REACH")
     void aDoorFartherOnDoesNotCountYet() {
         // Key 0's door is behind key 3's: the least key of both is 0, but only 3's can be walked to.
         for (int seed : SEEDS) {

@@ -7,6 +7,24 @@ public final class EdgesOfTermsTest extends Edges {
         new EdgesOfTermsTest().run();
     }
 
+    @Edge(of = 0, says = "An object is used for at most 512 calls after it has been made")
+    void allOf512Calls() {
+        Desk walked = Desk.made(2, 1, 0, 0);
+        for (int i = 1; i <= 510; i++) {
+            due("step " + i, true, walked.walk(i % 2 == 1 ? RIGHT : LEFT));
+        }
+        due("the last call", 510, walked.player(2));
+        Desk drawn = new Desk(12, 12, 3);
+        for (int i = 1; i <= 511; i++) {
+            due("maze " + i, 1, drawn.make(i, i % 144));
+        }
+        due("the last call", 511 % 144, drawn.player(0));
+        Desk counted = new Desk(4, 4, 3);
+        for (int i = 1; i <= 512; i++) {
+            due("trees, call " + i, 42467328, counted.trees());
+        }
+    }
+
     @Edge(of = 0, says = "All memory is the desk's own.")
     void desksShareNothing() {
         Desk one = Desk.busy();

@@ -51,6 +51,67 @@ public final class EdgesOfWalksTest extends Edges {
         due("over two ends", 2, torus.escape());
     }
 
+    @Edge(of = 18, says = "How many steps the shortest escape has")
+    void theShortestAsThingsAreNow() {
+        Desk desk = Desk.opened(3, 2, 0);
+        desk.exit(2);
+        due("along the row", 2, desk.escape());
+        desk.start(3);
+        due("another start", 3, desk.escape());
+        desk.start(0);
+        due("the first start", 2, desk.escape());
+        desk.exit(5);
+        due("another exit", 3, desk.escape());
+        desk.exit(2);
+        due("the first exit", 2, desk.escape());
+        desk.door(1, 1, RIGHT);
+        due("a door", 4, desk.escape());
+        desk.key(1, 0);
+        due("its key", 2, desk.escape());
+        due("keys are taken away, as none is needed", 1, desk.placeKeys(1));
+        due("so it is as before", 4, desk.escape());
+        desk.door(NONE, 1, RIGHT);
+        due("no door", 2, desk.escape());
+        desk.oneWay(0, RIGHT);
+        due("a one-way along it", 2, desk.escape());
+        desk.oneWay(2, LEFT);
+        due("one against it", 4, desk.escape());
+        desk.oneWay(2, LEFT);
+        due("it is one no more", 2, desk.escape());
+        desk.open(1, RIGHT, false);
+        due("closed", 4, desk.escape());
+        desk.open(1, RIGHT, true);
+        due("as at first", 2, desk.escape());
+        desk.make(1, 0);
+        due("a new maze", NONE, desk.escape());
+    }
+
+    @Edge(of = 18, says = "How many steps the shortest escape has")
+    void theShortestAfterBraidAndPlaceKeys() {
+        Desk braided = Desk.opened(2, 2, 0);
+        braided.open(0, RIGHT, false);
+        braided.exit(1);
+        due("around", 3, braided.escape());
+        due("braid", 1, braided.braid(1));
+        due("straight", 1, braided.escape());
+        Desk placed = Desk.made(3, 1, 0, 0);
+        placed.exit(2);
+        placed.door(0, 0, RIGHT);
+        due("a door", NONE, placed.escape());
+        due("its key is put", 1, placed.placeKeys(1));
+        due("with it", 2, placed.escape());
+    }
+
+    @Edge(of = 18, says = "How many steps the shortest escape has")
+    void aroundACutCell() {
+        Desk desk = new Desk(3, 3, 0).cutAll(4);
+        desk.make(1, 3);
+        desk.openAll(true);
+        desk.exit(5);
+        due("around it", 4, desk.escape());
+        due("above it, as up comes first", "^>>v", desk.escapeSteps());
+    }
+
     @Edge(of = 18, says = "NONE if there is none")
     void noEscape() {
         Desk closed = Desk.made(3, 1, 0, 0);
@@ -379,7 +440,9 @@ public final class EdgesOfWalksTest extends Edges {
         Desk desk = Desk.made(3, 1, 0, 0);
         desk.key(1, 0);
         due("not had at the start", 0, desk.player(1));
-        due("away and back", true, desk.walk(RIGHT) && desk.walk(LEFT));
+        due("away", true, desk.walk(RIGHT));
+        due("not had by going away", 0, desk.player(1));
+        due("and back", true, desk.walk(LEFT));
         due("had then", 2, desk.player(1));
         due("elsewhere", true, desk.walk(RIGHT));
         desk.key(2, 1);
