@@ -1,3 +1,5 @@
+import java.util.stream.IntStream;
+
 /**
  * Boards with long corridors between a crossing and the root: only such take thousands of pops. They
  * and their seeds were searched for, so that one stack is popped 5,000 times, and on the other 5,001.
@@ -61,26 +63,18 @@ final class PoppedBoards {
     }
 
     private static Desk deskOf(String[] board) {
-        Desk desk = new Desk(12, 12, 0);
-        for (int cell = 0; cell < 144; cell++) {
-            if (isCut(board, cell)) {
-                desk.cut(cell, true);
-            }
-        }
-        return desk;
+        return new Desk(12, 12, 0).cutAll(cutCells(board));
     }
 
     private static PlainDesk plainDeskOf(String[] board) {
         PlainDesk desk = new PlainDesk(12, 12, 0);
-        for (int cell = 0; cell < 144; cell++) {
-            if (isCut(board, cell)) {
-                desk.cut(cell, true);
-            }
+        for (int cell : cutCells(board)) {
+            desk.cut(cell, true);
         }
         return desk;
     }
 
-    private static boolean isCut(String[] board, int cell) {
-        return board[cell / 12].charAt(cell % 12) == '#';
+    private static int[] cutCells(String[] board) {
+        return IntStream.range(0, 144).filter(cell -> board[cell / 12].charAt(cell % 12) == '#').toArray();
     }
 }
