@@ -82,6 +82,9 @@ public final class EdgesOfWalksTest extends Edges {
         due("closed", 4, desk.escape());
         desk.open(1, RIGHT, true);
         due("as at first", 2, desk.escape());
+        desk.door(1, 4, UP);
+        desk.oneWay(2, LEFT);
+        due("two changes at once", 4, desk.escape());
         desk.make(1, 0);
         due("a new maze", NONE, desk.escape());
     }
