@@ -894,8 +894,8 @@ public final class MazeDesk {
         private final int[] cameFrom;
         private final int[] cameBy;
         private final int[] queue;
-        private final int[] steps;
         private int queued;
+        private int lastState;
         private int stepCount;
         private int knownAtChange;
 
@@ -905,7 +905,6 @@ public final class MazeDesk {
             cameFrom = new int[states];
             cameBy = new int[states];
             queue = new int[states];
-            steps = new int[states];
             stepCount = NONE;
             knownAtChange = NONE;
         }
@@ -918,8 +917,16 @@ public final class MazeDesk {
             return stepCount;
         }
 
+        /** Goes back from the last step to this one: a row of all steps would only take room. */
         int directionAt(int i) {
-            return i >= 0 && i < length() ? steps[i] : NONE;
+            if (i < 0 || i >= length()) {
+                return NONE;
+            }
+            int state = lastState;
+            for (int later = stepCount - 1; later > i && cameFrom[state] >= 0; later--) {
+                state = cameFrom[state];
+            }
+            return cameBy[state];
         }
 
         private int find() {
@@ -932,7 +939,8 @@ public final class MazeDesk {
             for (int head = 0; head < queued && head < queue.length; head++) {
                 int state = queue[head];
                 if (state / KEY_SETS == maze.exitCell()) {
-                    return writeSteps(state);
+                    lastState = state;
+                    return stepsTo(state);
                 }
                 lookAround(state);
             }
@@ -960,15 +968,10 @@ public final class MazeDesk {
             }
         }
 
-        private int writeSteps(int last) {
+        private int stepsTo(int last) {
             int count = 0;
-            for (int state = last; cameFrom[state] >= 0 && count < steps.length; state = cameFrom[state]) {
+            for (int state = last; cameFrom[state] >= 0 && count < cameFrom.length; state = cameFrom[state]) {
                 count++;
-            }
-            int state = last;
-            for (int i = count - 1; i >= 0; i--) {
-                steps[i] = cameBy[state];
-                state = cameFrom[state];
             }
             return count;
         }
