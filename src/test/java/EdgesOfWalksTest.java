@@ -36,6 +36,49 @@ public final class EdgesOfWalksTest extends Edges {
         due("and to it once more", 2 + 5 + 6 + 9 + 11, keys.escape());
     }
 
+    /** One winding row of all 144 cells, in which each key lies at the other end than its door is. */
+    @Edge(of = 18, says = "How many steps the shortest escape has")
+    void anEscapeFarLongerThanTheBoard() {
+        Desk desk = Desk.made(12, 12, 0, 0);
+        for (int cell = 0; cell < 144; cell++) {
+            if (cell % 12 < 11) {
+                desk.open(cell, RIGHT, true);
+            }
+            if (cell < 132) {
+                desk.open(cell, DOWN, onSnake(cell / 12 * 12 + 11) == cell);
+            }
+        }
+        desk.start(onSnake(2));
+        desk.key(0, onSnake(141));
+        desk.door(0, onSnake(1), RIGHT);
+        desk.key(1, onSnake(1));
+        desk.door(1, onSnake(142), RIGHT);
+        desk.key(2, onSnake(142));
+        desk.door(2, onSnake(0), RIGHT);
+        desk.key(3, onSnake(0));
+        desk.door(3, onSnake(143), RIGHT);
+        desk.exit(onSnake(143));
+        due("five times along it", 139 + 140 + 141 + 142 + 143, desk.escape());
+        due("from the start", RIGHT, desk.step(0));
+        due("the last to the right in row 0", RIGHT, desk.step(8));
+        due("down from it", DOWN, desk.step(9));
+        due("to the left in row 1", LEFT, desk.step(10));
+        due("to key 0", LEFT, desk.step(138));
+        due("and back", RIGHT, desk.step(139));
+        due("to key 1", LEFT, desk.step(278));
+        due("and back", RIGHT, desk.step(279));
+        due("to key 3", LEFT, desk.step(561));
+        due("and back", RIGHT, desk.step(562));
+        due("the last", LEFT, desk.step(704));
+        due("no more", NONE, desk.step(705));
+    }
+
+    /** The cell of the winding row: to the right in even rows, to the left in odd ones. */
+    private static int onSnake(int number) {
+        int row = number / 12;
+        return row % 2 == 0 ? number : row * 12 + 11 - number % 12;
+    }
+
     @Edge(of = 18, says = "How many steps the shortest escape has")
     void overTheEndsIsShorter() {
         Desk row = Desk.opened(12, 1, 0);
@@ -262,10 +305,16 @@ public final class EdgesOfWalksTest extends Edges {
         due("a step", RIGHT, desk.step(0));
         desk.open(1, RIGHT, false);
         due("no escape", NONE, desk.step(0));
+        due("nor step -1", NONE, desk.step(-1));
+        for (int i : FAR_OFF) {
+            due("nor step " + i, NONE, desk.step(i));
+        }
         desk.open(1, RIGHT, true);
+        due("a step again", RIGHT, desk.step(1));
         desk.exit(NONE);
         due("no exit any more", NONE, desk.step(0));
         due("nor step -1", NONE, desk.step(-1));
+        due("nor step -2", NONE, desk.step(-2));
     }
 
     @Edge(of = 19, says = "NONE if there is none such.")

@@ -1,4 +1,3 @@
-import com.sun.source.tree.AssertTree;
 import com.sun.source.tree.BinaryTree;
 import com.sun.source.tree.BlockTree;
 import com.sun.source.tree.ClassTree;
@@ -7,15 +6,10 @@ import com.sun.source.tree.DoWhileLoopTree;
 import com.sun.source.tree.ExpressionTree;
 import com.sun.source.tree.ForLoopTree;
 import com.sun.source.tree.ImportTree;
-import com.sun.source.tree.LambdaExpressionTree;
-import com.sun.source.tree.MemberReferenceTree;
 import com.sun.source.tree.MethodInvocationTree;
 import com.sun.source.tree.MethodTree;
 import com.sun.source.tree.NewClassTree;
-import com.sun.source.tree.SynchronizedTree;
-import com.sun.source.tree.ThrowTree;
 import com.sun.source.tree.Tree;
-import com.sun.source.tree.TryTree;
 import com.sun.source.tree.VariableTree;
 import com.sun.source.tree.WhileLoopTree;
 import com.sun.source.util.JavacTask;
@@ -51,6 +45,9 @@ public final class LanguageTest extends TreePathScanner<Void, Void> {
     private static final Set<String> CALLED = Set.of("java.lang.Object.Object()", "java.lang.Math.min(int,int)",
             "java.lang.Math.max(int,int)", "java.lang.String.charAt(int)", "java.util.Arrays.fill(int[],int)",
             "java.util.Arrays.fill(long[],long)");
+    private static final Map<Tree.Kind, Integer> REFUSED_BY_RULE = Map.of(Tree.Kind.LAMBDA_EXPRESSION, 2,
+            Tree.Kind.MEMBER_REFERENCE, 2, Tree.Kind.THROW, 6, Tree.Kind.TRY, 6, Tree.Kind.SYNCHRONIZED, 6,
+            Tree.Kind.ASSERT, 6);
     private static final int MOST_LINES = 60;
     private static final int MOST_PARAMETERS = 7;
     private static final int MOST_CLASSES = 12;
@@ -98,11 +95,6 @@ public final class LanguageTest extends TreePathScanner<Void, Void> {
         return Math.max(0, trees.getSourcePositions().getStartPosition(unit, tree));
     }
 
-    private Void refuse(int rule, Tree where) {
-        holds(rule, where, false, where.getKind().toString());
-        return null;
-    }
-
     private TypeMirror typeOf(Tree tree) {
         return trees.getTypeMirror(new TreePath(getCurrentPath(), tree));
     }
@@ -121,6 +113,14 @@ public final class LanguageTest extends TreePathScanner<Void, Void> {
         }
         return type.getKind().isPrimitive() || type.getKind() == TypeKind.VOID || isOwn(type.toString())
                 || type.toString().equals("java.lang.String");
+    }
+
+    @Override
+    public Void scan(Tree tree, Void none) {
+        if (tree != null && REFUSED_BY_RULE.containsKey(tree.getKind())) {
+            holds(REFUSED_BY_RULE.get(tree.getKind()), tree, false, "no " + tree.getKind());
+        }
+        return super.scan(tree, none);
     }
 
     @Override
@@ -242,36 +242,6 @@ public final class LanguageTest extends TreePathScanner<Void, Void> {
     private void endIsSeen(Tree loop, ExpressionTree condition) {
         String text = condition == null ? "" : condition.toString();
         holds(9, loop, text.contains("<") || text.contains(">"), "a loop against a bound");
-    }
-
-    @Override
-    public Void visitLambdaExpression(LambdaExpressionTree tree, Void none) {
-        return refuse(2, tree);
-    }
-
-    @Override
-    public Void visitMemberReference(MemberReferenceTree tree, Void none) {
-        return refuse(2, tree);
-    }
-
-    @Override
-    public Void visitThrow(ThrowTree tree, Void none) {
-        return refuse(6, tree);
-    }
-
-    @Override
-    public Void visitTry(TryTree tree, Void none) {
-        return refuse(6, tree);
-    }
-
-    @Override
-    public Void visitSynchronized(SynchronizedTree tree, Void none) {
-        return refuse(6, tree);
-    }
-
-    @Override
-    public Void visitAssert(AssertTree tree, Void none) {
-        return refuse(6, tree);
     }
 
     private void checkDepth(String method) {
